@@ -3,7 +3,7 @@ import java.lang.management.ManagementFactory;
 
 /** The dearest runs of calls that were found stay far inside the room that all calls of one run share. */
 public final class RoomTest {
-    // 7.3 million elements of 4 bytes at least; a quarter of that is far more than a run should take.
+    // The room holds 7.3 million elements, most of 4 bytes or 8: a quarter of it at most.
     private static final long MOST_BYTES = 7_300_000L;
 
     private static final String[] DEAREST = {
@@ -15,11 +15,10 @@ public final class RoomTest {
 
     public static void main(String[] args) {
         ThreadMXBean bean = (ThreadMXBean) ManagementFactory.getThreadMXBean();
-        long id = Thread.currentThread().getId();
         run();
-        long before = bean.getThreadAllocatedBytes(id);
+        long before = bean.getCurrentThreadAllocatedBytes();
         run();
-        long most = bean.getThreadAllocatedBytes(id) - before;
+        long most = bean.getCurrentThreadAllocatedBytes() - before;
         System.out.println("RoomTest: " + most + " bytes of " + MOST_BYTES);
         if (most > MOST_BYTES) {
             System.exit(1);
