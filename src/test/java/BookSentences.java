@@ -240,6 +240,13 @@ final class BookSentences {
         s.due("reads of another sort", Sentences.read(x, "h=a;"), 1);
         s.due("its length", x.now(2), 0);
         s.due("whose", x.now(3), 8);
+        ResidualJudge full = s.of("^=h*;");
+        for (int i = 0; i < 20; i++) {
+            full.steps(7);
+        }
+        s.due("reads, the row being full", full.reads(), 1);
+        s.due("its length", full.now(2), 0);
+        s.due("a step of it", full.steps(7), 128);
         x.begins(2);
         x.steps(3);
         s.due("reads with a fault tells nothing", Sentences.read(x, "h=a"), -13);

@@ -16,11 +16,11 @@ final class Sentences {
     private static final Path DOCUMENT = Path.of("../shared/DOC.md");
 
     private final Map<String, List<String>> quoted = new LinkedHashMap<>();
+    private final Set<String> named = new LinkedHashSet<>();
     private final Set<String> broken = new LinkedHashSet<>();
     private String sentence;
     private int checksOfIt;
     private int checks;
-    private int tests;
 
     // ---- tests
 
@@ -28,7 +28,7 @@ final class Sentences {
         endTest();
         sentence = section + ": " + words;
         checksOfIt = 0;
-        tests++;
+        named.add(sentence);
         quoted.computeIfAbsent(section, key -> new ArrayList<>()).add(words);
     }
 
@@ -57,8 +57,12 @@ final class Sentences {
         return broken;
     }
 
+    Set<String> named() {
+        return named;
+    }
+
     String summary() {
-        return tests + " sentences with " + checks + " answers, " + broken.size() + " broken";
+        return named.size() + " sentences with " + checks + " answers, " + broken.size() + " broken";
     }
 
     // ---- calls that most tests make

@@ -272,6 +272,21 @@ final class TextSentences {
         s.due("none", x.now(2), 0);
         s.due("back", x.back(), 0);
         s.due("the first grammar", x.of(8, 2), 0);
+        // A full ROW comes back whole.
+        x = s.of("^=(a|b,c)*;");
+        for (int i = 0; i < 20; i++) {
+            x.steps(i < 19 ? 0 : 1);
+        }
+        s.due("begins", x.begins(8), 3);
+        for (int i = 0; i < 3; i++) {
+            x.steps(0);
+        }
+        for (int left = 3; left >= 0; left--) {
+            s.due("back", x.back(), left);
+        }
+        s.due("its length", x.now(2), 20);
+        s.due("due behind its last SORT", x.now(0), 4);
+        s.due("it is full yet", x.steps(2), ResidualJudge.FULL);
     }
 
     private void fourStates() {
