@@ -43,13 +43,12 @@ public final class ResidualJudge {
     private final GrammarReader reader = new GrammarReader();
     private final Machines machines = new Machines();
     private final RowCounter counter = new RowCounter();
-    private final BookJudge book = new BookJudge(machines);
+    private final BookJudge book = new BookJudge();
     private int refusedBad;
     private int refusedNo;
     private int refusedFull;
 
     public ResidualJudge() {
-        machines.follow(scene.patterns);
     }
 
     // ---- texts
@@ -114,12 +113,12 @@ public final class ResidualJudge {
         if (what < 0 || what > 5) {
             return refuse(BAD);
         }
-        int fault = book.goThrough(text);
+        int fault = book.goThrough(text, machines);
         return fault == NONE ? ofBook(what) : FAULT_BASE - fault;
     }
 
     public int mark() {
-        int fault = book.goThrough(text);
+        int fault = book.goThrough(text, machines);
         return fault == NONE ? bitsOf(book.share()) : FAULT_BASE - fault;
     }
 
@@ -891,9 +890,11 @@ public final class ResidualJudge {
     private static final class Machines {
         private final Machine[] all = new Machine[OWNERS];
 
+        /** For THE GRAMMAR as it is at first. */
         Machines() {
             for (int x = 0; x < OWNERS; x++) {
                 all[x] = new Machine();
+                all[x].load(EMPTY);
             }
         }
 
@@ -972,7 +973,6 @@ public final class ResidualJudge {
 
     /** Goes through THE TEXT as a BOOK, and holds what it found until it goes through the next one. */
     private static final class BookJudge {
-        private final Machines machines;
         // Whose PARTS are open, THE BOOK's first, and where the ROW of SORTS in each of them stands.
         private final int[] owners = new int[OPEN_ROOM + 1];
         private final int[] stands = new int[OPEN_ROOM + 1];
@@ -986,22 +986,18 @@ public final class ResidualJudge {
         private int lettersAhead;
         private int deepest;
 
-        BookJudge(Machines machines) {
-            this.machines = machines;
-        }
-
         /** The FAULT, or NONE. */
-        int goThrough(Text text) {
+        int goThrough(Text text, Machines machines) {
             begin();
             for (int i = 0; i < text.length; i++) {
                 int c = text.at(i);
                 int sort = sortOf(c);
                 if (sort != NONE) {
-                    takeLetter(sort, i);
+                    takeLetter(machines, sort, i);
                 } else if (c == '(' && bare != NONE && depth < OPEN_ROOM) {
                     takeOpening();
                 } else if (c == ')' && depth > 0) {
-                    takeClosing(i);
+                    takeClosing(machines, i);
                 } else if (c != ' ') {
                     return i;
                 }
@@ -1009,8 +1005,8 @@ public final class ResidualJudge {
             if (depth > 0) {
                 return text.length;
             }
-            endBare(text.length);
-            endRow(text.length);
+            endBare(machines, text.length);
+            endRow(machines, text.length);
             return NONE;
         }
 
@@ -1034,8 +1030,8 @@ public final class ResidualJudge {
             deepest = 0;
         }
 
-        private void takeLetter(int sort, int place) {
-            endBare(place);
+        private void takeLetter(Machines machines, int sort, int place) {
+            endBare(machines, place);
             if (flaw == NONE) {
                 Machine machine = machines.at(owners[depth]);
                 int next = machine.step(stands[depth], sort);
@@ -1057,29 +1053,26 @@ public final class ResidualJudge {
             bare = NONE;
         }
 
-        private void takeClosing(int place) {
-            endBare(place);
-            endRow(place);
+        private void takeClosing(Machines machines, int place) {
+            endBare(machines, place);
+            endRow(machines, place);
             depth--;
         }
 
-        private void endBare(int place) {
+        private void endBare(Machines machines, int place) {
             if (bare != NONE) {
-                endAt(place, bare, Machine.START);
+                endAt(place, machines.at(bare), Machine.START);
                 bare = NONE;
             }
         }
 
-        private void endRow(int place) {
-            endAt(place, owners[depth], stands[depth]);
+        private void endRow(Machines machines, int place) {
+            endAt(place, machines.at(owners[depth]), stands[depth]);
         }
 
-        private void endAt(int place, int owner, int stand) {
-            if (flaw == NONE) {
-                Machine machine = machines.at(owner);
-                if (!machine.isEnding(stand)) {
-                    tellFlaw(place, machine, stand);
-                }
+        private void endAt(int place, Machine machine, int stand) {
+            if (flaw == NONE && !machine.isEnding(stand)) {
+                tellFlaw(place, machine, stand);
             }
         }
 
